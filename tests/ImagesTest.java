@@ -29,6 +29,8 @@ public final class ImagesTest {
     private static void keepAndGoBack() {
         Runs.play("32, 33", SCENE, "keep(1) = 1", SCENE_STANDS, ALL_CHANGES, "goBack(1) = 1", SCENE_STANDS,
             "told(14) = 0; undo(1) = NOT", ALL_CHANGES, "goBack(1) = 1", SCENE_STANDS);
+        Runs.play("32: a key in place of another", "key(1, 2, 1); keep(0); unkey(); key(3, 7, 0); goBack(0); keyAt(0, 0) = 1",
+            "keyAt(0, 1) = 2; keyAt(0, 2) = 1; told(0) = 1");
         Runs.play("32: an image does not change", SCENE, "keep(0) = 1; goBack(0) = 1; take(4, 9); put(0, 0, 0); keep(1) = 1",
             "goBack(0) = 1", SCENE_STANDS, "goBack(1) = 1; cell(0, 0, 1) = 9; hand(1) = 9");
         Runs.play("32: a new object", "keep(0) = 1", SCENE, "goBack(0) = 1; row(0, 0) = 14; row(1, 1) = -1; told(0) = 0; told(1) = 0",

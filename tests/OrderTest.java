@@ -91,6 +91,7 @@ public final class OrderTest {
             "below(0, 7, 0) = NONE; take(9, 1); below(0, 7, 0) = NONE; lay(0, 8, 3); take(4, 1); below(0, 4, 0) = NONE");
         Runs.play("10: no cells", "lay(0, 5, 0); take(4, 1); below(0, 4, 0) = 0; take(5, 1); below(0, 4, 0) = NONE",
             "take(9, 1); below(0, 4, 0) = NONE; below(0, 8, 0) = 0; lay(1, 10, 0); take(0, 1); below(1, 0, 1) = 0");
+        Runs.play("10: one cell", "lay(0, 5, 1); take(4, 1); below(0, 4, 0) = NONE; below(0, 5, 0) = 1");
     }
 
     private static void would() {

@@ -91,6 +91,7 @@ public final class RearrangeTest {
             "figure(1, 0) = NOT; lay(1, 6, 3); figure(1, 0) = NOT; lay(1, 0, 3); figure(1, 0) = NOT; lay(1, 8, 3)",
             "figure(1, 0) = NOT; lay(1, 12, 3); figure(1, 0) = NOT; lay(1, 3, 3); figure(1, 0) = 0; lay(1, 2, 3); figure(1, 20) = 0");
         Runs.play("25: no cells", "lay(0, 4, 0); lay(1, 9, 0); sheet(1); figure(1, 0) = 0; lay(1, 13, 0); figure(1, 0) = NOT");
+        Runs.play("25: one cell", "lay(0, 4, 1); lay(1, 9, 1); sheet(1); figure(1, 0) = NOT; figure(0, 0) = 0");
     }
 
     private static void deal() {
@@ -105,8 +106,8 @@ public final class RearrangeTest {
 
     private static void drift() {
         Runs.play("27: errors", "drift(0) = OUTSIDE; drift(13) = OUTSIDE; drift(-1) = OUTSIDE; told(15) = 0; told(14) = 0");
-        // draws after seed 0: 0 of 6, 10 of 12, 9 of 10 (null), 158 of 256
-        Runs.play("27: a null", Runs.filled(0, 9, 4, 1, 1, 1, 1, 1, 1, 1, 1, 1, 1, 1, 1), drawnPut(0), "told(14) = 16");
+        // the draws after seed 0 are 0 of 6, 0 of 12, 8 of 10 (a tag) and 101 of 256
+        Runs.play("27: a tag", Runs.filled(0, 9, 4, 1, 1, 1, 1, 1, 1, 1, 1, 1, 1, 1, 1), drawnPut(0), "told(14) = 16");
         for (int seed = 1; seed < 120; seed += 7) {
             Runs.play("27: seed " + seed, "lay(0, 9, 12); lay(1, 9, 12); lay(2, 9, 12); lay(3, 9, 12); lay(4, 9, 12); lay(5, 9, 12)",
                 "take(3, 99); told(14) = 7", drawnPut(seed), "told(14) = 8; hand(0) = 3; hand(1) = 99; undo(1) = 7",

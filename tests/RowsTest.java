@@ -66,6 +66,7 @@ public final class RowsTest {
         Runs.play("2: the second key again", columns, "key(1, 8, 0) = 1; key(1, 8, 0) = 2; key(0, 8, 0) = 3",
             "told(9) = 0; told(10) = 1");
         Runs.play("2: the last key alone", columns, "key(0, 8, 1) = 1; key(1, 8, 0) = 2; told(9) = 2; told(10) = 2");
+        Runs.play("2: asked before all else", columns, "key(0, 8, 0); key(1, 8, 0); told(10) = 3; sheet(4); told(10) = NONE; told(9) = NONE");
         Runs.play("2: no key is needed", Runs.filled(0, 4, 4, 1, 2, 3), "key(0, 8, 0) = 1; key(0, 5, 0) = 2",
             "told(9) = 0; told(10) = 0");
     }
@@ -85,7 +86,7 @@ public final class RowsTest {
             "sheet(1); told(2) = 3; sheet(4); told(2) = NONE; lay(2, 12, 3); told(2) = NONE; lay(2, 13, 3); told(2) = NONE",
             "lay(2, 11, 3); told(2) = 3");
         Runs.play("2: a key that cannot be read", "lay(0, 4, 3); key(0, 3, 0); told(2) = NONE; unkey(); told(2) = NONE",
-            "key(0, 6, 0); told(2) = 3; lay(0, 8, 3); told(2) = NONE; lay(0, 8, 0); told(2) = 0");
+            "key(0, 6, 0); told(2) = 3; lay(0, 8, 3); told(2) = NONE; lay(0, 8, 1); told(2) = NONE; lay(0, 8, 0); told(2) = 0");
         Runs.play("2: the book and the deeds", "lay(0, 4, 2); key(0, 8, 0); write(0, 0); write(1, 0); told(12) = 2",
             "told(13) = 1; told(14) = 2; seed(77); told(15) = 77");
     }

@@ -44,6 +44,8 @@ public final class UndoTest {
     }
 
     private static void latestSixteen() {
+        Runs.play("28: a key in place of another", "key(1, 2, 1) = 1; unkey() = 0; key(3, 7, 0) = 1; undo(2) = 1",
+            "keyAt(0, 0) = 1; keyAt(0, 1) = 2; keyAt(0, 2) = 1");
         RowRanks x = new RowRanks();
         for (int w = 1; w <= 20; w++) {
             Runs.goOn(x, "28", "weigh(0, " + w + ") = " + (w - 1) + "; told(14) = " + Math.min(w, 16));

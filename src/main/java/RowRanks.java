@@ -457,10 +457,12 @@ public final class RowRanks {
         if (!isIn(i, 0, IMAGES - 1)) {
             return UNKNOWN;
         }
-        if (images[i] == null) {
-            images[i] = new Bench();
+        Bench image = images[i];
+        if (image == null) {
+            image = new Bench();
+            images[i] = image;
         }
-        images[i].copyFrom(bench);
+        image.copyFrom(bench);
         imageRandoms[i] = random;
         history.count = 0;
         return 1;
@@ -470,10 +472,11 @@ public final class RowRanks {
         if (!isIn(i, 0, IMAGES - 1)) {
             return UNKNOWN;
         }
-        if (images[i] == null) {
+        Bench image = images[i];
+        if (image == null) {
             return NOT;
         }
-        bench.copyFrom(images[i]);
+        bench.copyFrom(image);
         random = imageRandoms[i];
         history.count = 0;
         return 1;
@@ -501,7 +504,7 @@ public final class RowRanks {
     }
 
     private static boolean fits(int sort, int wanted) {
-        if (!isIn(sort, 0, WIDENS.length - 1) || !isIn(wanted, 0, DOUBLE)) {
+        if (sort < 0 || sort >= WIDENS.length || wanted < 0 || wanted > DOUBLE) {
             return false;
         }
         return (WIDENS[sort] >> wanted & 1) == 1;
@@ -669,11 +672,11 @@ public final class RowRanks {
         // ---- slots and cells
 
         int kindOf(int slot) {
-            return isSlot(slot) ? kinds[slot] : EMPTY;
+            return slot >= 0 && slot < SLOTS ? kinds[slot] : EMPTY;
         }
 
         int sizeOf(int slot) {
-            return isSlot(slot) ? sizes[slot] : 0;
+            return slot >= 0 && slot < SLOTS ? sizes[slot] : 0;
         }
 
         boolean holdsArray(int slot) {
@@ -790,8 +793,8 @@ public final class RowRanks {
             handNumber = number;
         }
 
-        int weightOf(long t) {
-            return t >= 0 && t < TAGS ? weights[(int) t] : 0;
+        int weightOf(int t) {
+            return isTag(t) ? weights[t] : 0;
         }
 
         void setWeight(int t, int w) {
@@ -801,7 +804,10 @@ public final class RowRanks {
         }
 
         int heft(long t) {
-            return t >= FIRST_SEAL ? 2 * weightOf(t) : weightOf(t);
+            if (t < 0 || t >= TAGS) {
+                return 0;
+            }
+            return t >= FIRST_SEAL ? 2 * weights[(int) t] : weights[(int) t];
         }
 
         int cellsWithTag(int t) {
@@ -1168,22 +1174,25 @@ public final class RowRanks {
 
         void remember(Bench bench) {
             int index = Math.floorMod(next, DEEDS);
-            if (before[index] == null) {
-                before[index] = new Bench();
+            Bench old = before[index];
+            if (old == null) {
+                // Made once for each part of the ring and used again, so that long runs need no more room.
+                old = new Bench();
+                before[index] = old;
             }
-            before[index].copyFrom(bench);
-            next = (index + 1) % DEEDS;
+            old.copyFrom(bench);
+            next = index + 1;
             count = Math.min(count + 1, DEEDS);
         }
 
         void takeBack(int n, Bench bench) {
             int index = Math.floorMod(next - n, DEEDS);
-            if (before[index] == null || n > count) {
-                return;
+            Bench old = before[index];
+            if (old != null && n <= count) {
+                bench.copyFrom(old);
+                next = index;
+                count -= n;
             }
-            bench.copyFrom(before[index]);
-            next = index;
-            count -= n;
         }
     }
 
