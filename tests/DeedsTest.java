@@ -25,6 +25,12 @@ public final class DeedsTest {
         Runs.play("12: errors", "lay(-1, 0, 0) = UNKNOWN; lay(6, 15, 13) = UNKNOWN; lay(0, 15, 0) = OUTSIDE",
             "lay(0, -1, 0) = OUTSIDE; lay(0, 0, 13) = OUTSIDE; lay(0, 0, -1) = OUTSIDE; lay(0, 14, 13) = OUTSIDE",
             "lay(0, 12, -1) = OUTSIDE; row(0, 0) = 14; told(14) = 0");
+        for (int kind = 12; kind <= 14; kind++) {
+            for (int n = 0; n <= 12; n++) {
+                Runs.play("12: n has no effect", "lay(0, 4, 3); lay(0, " + kind + ", " + n + ") = 4; row(0, 0) = " + kind,
+                    "row(0, 1) = " + (kind == 14 ? -1 : -2) + "; cell(0, 0, 0) = " + (kind == 14 ? -11 : -12) + "; told(11) = NONE");
+            }
+        }
         Runs.play("12: what was there is gone", Runs.filled(0, 9, 4, 1, 2, 3), "lay(0, 9, 3) = 9; cell(0, 1, 0) = 9",
             "lay(0, 4, 3) = 9;" + Runs.holds(0, 0, 0, 0));
     }
@@ -90,6 +96,16 @@ public final class DeedsTest {
         Runs.play("16: until one does not fit", "lay(0, 9, 3); take(4, 7); put(0, 0, 0); put(0, 2, 0); lay(1, 4, 3)",
             "pour(0, 0, 1, 0, 3) = 1;" + Runs.holds(1, 7, 0, 0), "lay(2, 8, 3); pour(0, 0, 2, 0, 3) = 3; cell(2, 1, 0) = 9",
             "pour(2, 0, 1, 0, 1) = 1; pour(2, 1, 1, 0, 1) = 0; hand(0) = 4; told(14) = 10");
+        Runs.play("16: the hand and what is read stay", Runs.filled(0, 1, 1, 7, 8), "lay(1, 9, 2); take(7, 3); pour(0, 0, 1, 0, 2) = 2",
+            "hand(0) = 7; hand(1) = 3; cell(1, 0, 0) = 1;" + Runs.holds(0, 7, 8) + Runs.holds(1, 7, 8));
+        Runs.play("16: twelve", Runs.filled(0, 2, 2, 1, 2, 3, 4, 5, 6, 7, 8, 9, 10, 11, 12), "lay(5, 7, 12); pour(0, 0, 5, 0, 12) = 12;"
+            + Runs.holds(5, 1, 2, 3, 4, 5, 6, 7, 8, 9, 10, 11, 12), "pour(5, 0, 0, 0, 12) = 0; pour(0, 11, 5, 0, 12) = 1; cell(5, 0, 1) = 12",
+            "pour(0, 0, 5, 11, 12) = 1; cell(5, 11, 1) = 1; pour(0, 0, 0, 1, 12) = 11;" + Runs.holds(0, 1, 1, 1, 1, 1, 1, 1, 1, 1, 1, 1, 1));
+        Runs.play("16: as it is, into arrays of objects", Runs.filled(0, 4, 4, 5, 6) + Runs.filled(1, 3, 3, 7, 8), "lay(2, 8, 2)",
+            "pour(0, 0, 2, 0, 2) = 2; cell(2, 0, 0) = 4; pour(1, 0, 2, 0, 2) = 0; cell(2, 0, 1) = 5; lay(3, 9, 2); pour(1, 0, 3, 0, 2) = 2",
+            "cell(3, 0, 0) = 3; pour(3, 0, 0, 0, 2) = 2;" + Runs.holds(0, 7, 8), "pour(2, 0, 1, 0, 2) = 0;" + Runs.holds(1, 7, 8));
+        Runs.play("16: seals among tags", Runs.filled(0, 10, 8, 4, 7, 3, 5), "lay(1, 11, 4); pour(0, 0, 1, 0, 4) = 2; cell(1, 1, 1) = 7",
+            "cell(1, 2, 0) = 9; cell(1, 3, 0) = 9; pour(1, 1, 0, 2, 2) = 2; cell(0, 2, 1) = 7; cell(0, 3, 0) = 9");
         Runs.play("16: errors", "pour(-1, 0, 0, 0, 1) = UNKNOWN; pour(6, 0, 0, 0, 13) = UNKNOWN; pour(0, 0, 6, 0, 13) = UNKNOWN",
             "pour(0, 0, -1, 0, 1) = UNKNOWN; pour(0, 0, 0, 0, 13) = OUTSIDE; pour(0, 0, 0, 0, -1) = OUTSIDE; told(14) = 0",
             "pour(0, 2147483647, 0, -2147483648, 12) = 0; told(14) = 1");

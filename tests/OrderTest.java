@@ -11,6 +11,7 @@ public final class OrderTest {
         below();
         belowRefused();
         would();
+        wouldWithoutKeys();
         wouldRefused();
         Runs.finish();
     }
@@ -103,6 +104,18 @@ public final class OrderTest {
         Runs.play("11: a slot that is not concerned", Runs.filled(0, 5, 5, 10, 20), "lay(1, 9, 5); key(0, 8, 0)",
             "would(1, 1) = 1; would(1, 0) = 0; would(1, 2) = NONE; lay(2, 4, 1); would(2, 1) = NONE; would(2, 0) = NONE",
             "take(3, 7); would(2, 0) = 0");
+    }
+
+    private static void wouldWithoutKeys() {
+        Runs.play("11: all are alike", "lay(0, 4, 3); lay(1, 4, 3); lay(2, 4, 5); sheet(2); take(4, 9); would(0, 1) = 0; would(1, 1) = 0",
+            "would(2, 2) = 0; would(2, 3) = NONE; would(0, 3) = NONE");
+        Runs.play("11: nothing is changed", Runs.filled(0, 9, 4, 3, 1, 2), "key(0, 8, 0); sheet(1); take(1, 9); keep(0); would(0, 1) = 0",
+            "would(0, 0) = 0; would(0, 2) = 0; cell(0, 0, 0) = 4; cell(0, 1, 0) = 4; cell(0, 2, 0) = 4;", Runs.holds(0, 3, 1, 2),
+            "hand(0) = 1; told(14) = 0; take(5, 0); would(0, 1) = 2; would(0, 0) = 2; take(9, 0); would(0, 0) = 0");
+        Runs.play("11: converted to the cell's sort", Runs.filled(0, 6, 6, 16777216, 5), "key(0, 8, 0); take(4, 16777217); would(0, 1) = 0",
+            "take(4, 16777219); would(0, 1) = 1; take(7, 9); would(0, 1) = NONE");
+        Runs.play("11: how many places are less, not its position", Runs.filled(0, 4, 4, 5, 5, 5, 1), "key(0, 8, 0); take(4, 5)",
+            "would(0, 3) = 0; would(0, 2) = 1; take(4, 6); would(0, 0) = 3; would(0, 3) = 3; take(4, 1); would(0, 1) = 0");
     }
 
     private static void wouldRefused() {

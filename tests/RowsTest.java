@@ -9,7 +9,9 @@ public final class RowsTest {
         toldOfOnePlaceAndOfNone();
         toldMeasures();
         toldKeysThatMatter();
+        toldFewestKeys();
         toldExplanation();
+        toldExplanationByEachSort();
         toldFitness();
         row();
         cell();
@@ -69,6 +71,43 @@ public final class RowsTest {
         Runs.play("2: asked before all else", columns, "key(0, 8, 0); key(1, 8, 0); told(10) = 3; sheet(4); told(10) = NONE; told(9) = NONE");
         Runs.play("2: no key is needed", Runs.filled(0, 4, 4, 1, 2, 3), "key(0, 8, 0) = 1; key(0, 5, 0) = 2",
             "told(9) = 0; told(10) = 0");
+    }
+
+    private static void toldFewestKeys() {
+        // C is the order of A and B together, though of neither alone.
+        String columns = Runs.filled(0, 4, 4, 1, 0, 1, 0) + Runs.filled(1, 4, 4, 1, 1, 0, 0) + Runs.filled(2, 4, 4, 3, 1, 2, 0);
+        Runs.play("2: fewer keys before the least number", columns, "key(0, 8, 0); key(1, 8, 0); key(2, 8, 0); told(10) = 4; told(9) = 1");
+        Runs.play("2: of several the least number", columns, "key(0, 8, 0); key(1, 8, 0); key(0, 8, 0); key(1, 8, 0); told(10) = 3; told(9) = 1");
+        Runs.play("2: the later pair", columns, "key(0, 8, 0); key(0, 8, 1); key(0, 5, 0); key(1, 8, 0); told(10) = 9; told(9) = 9");
+        Runs.play("2: in their sequence", columns, "key(1, 8, 0); key(0, 8, 0); key(1, 8, 0); told(10) = 3; told(9) = 3; told(3) = 0");
+        Runs.play("2: each alone can be left out", columns, "key(2, 8, 0); key(2, 5, 0); key(2, 7, 0); key(2, 6, 0); told(9) = 0; told(10) = 1");
+        Runs.play("2: all four", Runs.filled(0, 4, 4, 1, 1, 1, 1, 0), Runs.filled(1, 4, 4, 1, 1, 1, 0, 0), Runs.filled(2, 4, 4, 1, 1, 0, 0, 0),
+            Runs.filled(3, 4, 4, 1, 0, 0, 0, 0), "key(0, 8, 0); key(1, 8, 0); key(2, 8, 0); key(3, 8, 0); told(9) = 15; told(10) = 15");
+        Runs.play("2: the order, not who is less", Runs.filled(0, 4, 4, 1, 2, 3), Runs.filled(1, 4, 4, 3, 2, 1),
+            "key(0, 8, 0); key(1, 8, 0); told(9) = 1; told(10) = 0; unkey(); told(9) = 0; unkey(); sheet(1); told(9) = 0; told(10) = 0");
+    }
+
+    private static void toldExplanationByEachSort() {
+        String[] fitting = {"0", "134567", "24567", "34567", "4567", "567", "67", "7", "", "", "", ""};
+        for (int slot = 0; slot < 6; slot++) {
+            for (int kind = 0; kind <= 14; kind++) {
+                int by = kind <= 7 ? fitting[kind].charAt(0) - '0' : 8;
+                int due = kind <= 11 ? 18 * slot + 2 * by : -1;
+                Runs.play("2: kind " + kind, "lay(" + slot + ", " + kind + ", 1); told(11) = NONE; lay(" + slot + ", " + kind + ", 0); told(11) = NONE",
+                    "lay(" + slot + ", " + kind + ", 2); told(11) = " + due + "; lay(" + slot + ", " + kind + ", 12); told(11) = " + due);
+                if (kind != 0 && kind <= 7) {
+                    Runs.play("2: kind " + kind, Runs.filled(slot, kind, kind, 3, 2, 2), "told(11) = " + (due + 1));
+                }
+            }
+        }
+        Runs.play("2: booleans descend", Runs.filled(0, 0, 0, 1, 0), "told(11) = 1");
+        Runs.play("2: the last cells", Runs.filled(0, 9, 4, 1, 2, 3, 3, 2), "told(11) = NONE; lay(1, 8, 2); told(11) = 34");
+        Runs.play("2: objects", Runs.filled(0, 8, 4, 1, 2, 3), "told(11) = 16; take(9, 0); put(0, 2, 0); told(11) = NONE; put(0, 0, 0) = 0",
+            "told(11) = NONE; take(4, 0); put(0, 2, 0); told(11) = NONE; put(0, 1, 0); told(11) = 16");
+        Runs.play("2: tags descend by heft", Runs.filled(4, 10, 8, 7, 5, 4, 0), "told(11) = 89; weigh(0, 5); told(11) = NONE",
+            "weigh(7, 2); told(11) = 88; weigh(4, 1); told(11) = NONE");
+        Runs.play("2: chars as chars", Runs.filled(0, 2, 2, 65535, 0), "told(11) = 5");
+        Runs.play("2: the later slot", Runs.filled(2, 4, 4, 2, 1, 3), Runs.filled(3, 4, 4, 2, 1, 0), "told(11) = 63; lay(1, 4, 2); told(11) = 26");
     }
 
     private static void toldExplanation() {
