@@ -71,9 +71,14 @@ public final class FaceTest {
         int modifiers = RowRanks.class.getModifiers();
         Runs.due("public final class", Modifier.isPublic(modifiers) && Modifier.isFinal(modifiers) ? 1 : 0, 1);
         Runs.due("no package", RowRanks.class.getPackageName().length(), 0);
-        Constructor<?>[] constructors = RowRanks.class.getDeclaredConstructors();
-        Runs.due("constructors", constructors.length, 1);
-        Runs.due("public constructor", Modifier.isPublic(constructors[0].getModifiers()) ? 1 : 0, 1);
-        Runs.due("parameters of the constructor", constructors[0].getParameterCount(), 0);
+        int constructors = 0;
+        for (Constructor<?> constructor : RowRanks.class.getDeclaredConstructors()) {
+            if (!isHidden(constructor)) {
+                constructors++;
+                Runs.due("public constructor", Modifier.isPublic(constructor.getModifiers()) ? 1 : 0, 1);
+                Runs.due("parameters of the constructor", constructor.getParameterCount(), 0);
+            }
+        }
+        Runs.due("constructors", constructors, 1);
     }
 }

@@ -13,8 +13,17 @@ final class Runs {
     private static final Map<String, Long> ERRORS = Map.of("NONE", -1L, "UNKNOWN", -1000000001L,
         "OUTSIDE", -1000000002L, "NOT", -1000000003L, "FULL", -1000000004L);
 
+    private static final long LONGEST_TEST = 300_000;
+
     private static int wrong = 0;
     private static int calls = 0;
+
+    static {
+        // A call that never ends must be a fault, too.
+        Thread watch = new Thread(Runs::failLater);
+        watch.setDaemon(true);
+        watch.start();
+    }
 
     private Runs() {
     }
@@ -108,6 +117,16 @@ final class Runs {
         } catch (IllegalAccessException hidden) {
             throw new IllegalStateException(hidden);
         }
+    }
+
+    private static void failLater() {
+        try {
+            Thread.sleep(LONGEST_TEST);
+        } catch (InterruptedException stopped) {
+            return;
+        }
+        System.out.println("a call does not end");
+        Runtime.getRuntime().halt(1);
     }
 
     static void finish() {
