@@ -10,6 +10,7 @@ public final class OrderTest {
         orderByAnotherType();
         below();
         belowRefused();
+        belowOfEachKind();
         would();
         wouldWithoutKeys();
         wouldRefused();
@@ -93,6 +94,28 @@ public final class OrderTest {
         Runs.play("10: no cells", "lay(0, 5, 0); take(4, 1); below(0, 4, 0) = 0; take(5, 1); below(0, 4, 0) = NONE",
             "take(9, 1); below(0, 4, 0) = NONE; below(0, 8, 0) = 0; lay(1, 10, 0); take(0, 1); below(1, 0, 1) = 0");
         Runs.play("10: one cell", "lay(0, 5, 1); take(4, 1); below(0, 4, 0) = NONE; below(0, 5, 0) = 1");
+    }
+
+    /** Cells that are all 0 or null against the hand, for each kind, each way to read and each sort in the hand. */
+    private static void belowOfEachKind() {
+        String[] fitting = {"0", "134567", "24567", "34567", "4567", "567", "67", "7", "", ""};
+        for (int kind = 0; kind <= 14; kind++) {
+            for (int by = 0; by <= 8; by++) {
+                for (int sort = 0; sort <= 9; sort++) {
+                    boolean handFits = by == 8 || fitting[sort].indexOf('0' + by) >= 0;
+                    boolean cellsFit = by == 8 || kind <= 7 && fitting[kind].indexOf('0' + by) >= 0;
+                    boolean areLess = by < 8 || sort != 9 && (kind > 7 || kind <= sort);
+                    boolean areAlike = by == 8 && sort == 9 && kind > 7;
+                    String none = kind > 11 || !handFits ? "NONE" : null;
+                    String less = none != null ? none : !cellsFit ? "NONE" : areLess ? "3" : "0";
+                    String alike = none != null ? none : !cellsFit ? "NONE" : areAlike ? "3" : "0";
+                    String ofNone = none != null ? none : "0";
+                    Runs.play("10: kind " + kind + " by " + by + ", hand " + sort, "take(" + sort + ", 1); lay(5, " + kind + ", 3)",
+                        "below(5, " + by + ", 0) = " + less + "; below(5, " + by + ", 1) = " + alike + "; lay(5, " + kind + ", 0)",
+                        "below(5, " + by + ", 0) = " + ofNone + "; below(5, " + by + ", 1) = " + ofNone);
+                }
+            }
+        }
     }
 
     private static void would() {
