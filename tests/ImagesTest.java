@@ -46,6 +46,11 @@ public final class ImagesTest {
     private static void theBookStays() {
         Runs.play("33: the book", "lay(0, 4, 2); sheet(1); keep(0) = 1; write(0, 0); write(1, 0); goBack(0) = 1; told(12) = 2",
             "told(13) = 1; keep(1) = 1; told(12) = 2; tear() = 2; goBack(1) = 1; told(12) = 0");
+        for (int i = 0; i <= 1; i++) {
+            Runs.play("32: kept with entries in the book", "lay(0, 4, 2); sheet(1); keep(" + i + "); write(1, 1); write(0, 5); take(4, 9)",
+                "put(0, 0, 0) = 0; keep(" + i + ") = 1; lay(0, 4, 2) = 4; take(1, 0) = 4; goBack(" + i + ") = 1; cell(0, 0, 1) = 9",
+                "hand(0) = 4; hand(1) = 9; told(12) = 2; told(13) = 1");
+        }
     }
 
     private static void errors() {
